@@ -7,6 +7,7 @@ public final class FieldTest {
         straightCorners();
         cornersInOnePlace();
         wideTurn();
+        nothingIsLeftOfAnOlderField();
         sidesEastOfASquare();
         sidesEastOfSlopes();
         sidesEastOfFarPoints();
@@ -40,7 +41,30 @@ public final class FieldTest {
     private static void corneredField() {
         turns("L", with(0, 0, 200, 0, 200, 100, 100, 100, 100, 200, 0, 200), 5, false);
         turns("L the other way", with(0, 0, 0, 200, 100, 200, 100, 100, 200, 100, 200, 0), 1, false);
+        turns("the one left turn is at corner 0", with(100, 100, 200, 100, 200, 0, 0, 0, 0, 200, 100, 200), 1, false);
+        turns("the one right turn is at corner 0", with(100, 100, 100, 200, 0, 200, 0, 0, 200, 0, 200, 100), 5, false);
+        turns("the least turns", with(0, 0, 1, 0, 0, 1), 3, true);
+        turns("the least turns to the right", with(0, 0, 0, 1, 1, 0), 0, true);
         turns("arrow", with(0, 0, 100, 30, 200, 0, 100, 200), 3, false);
+    }
+
+    /** Fields are kept in the place of one that had more corners, all of them elsewhere. */
+    private static void nothingIsLeftOfAnOlderField() {
+        AcreOffice x = with(9000, 50, 9500, 40, 9600, 500, 9000, 900, 8000, 800, 7000, 90);
+        x.giveUp(0);
+        Check.keepCorners(x, 100, 100, 200, 100, 200, 200, 100, 200);
+        turns("square in an old place", x, 4, true);
+        Check.number("P23 square in an old place", x.cornersOf(0), 4);
+        Check.number("P28 square in an old place", x.sidesEastOf(0, 99, 150), 2);
+        Check.number("P29 square in an old place", x.sharedSides(0, 0), 4);
+        Check.number("P30 square in an old place", x.twiceAreaByCorners(0), 20000);
+        Check.number("P31 square in an old place", x.twiceAreaByStrips(0), 20000);
+        Check.number("P37 square in an old place", x.sheetsFor(0, 10), 1);
+        Check.number("P38 square in an old place", x.scaleFor(0), 10);
+        x.giveUp(0);
+        Check.keepCorners(x, 100, 100, 100, 200, 200, 200);
+        turns("triangle in an old place", x, 0, true);
+        Check.number("P30 triangle in an old place", x.twiceAreaByCorners(0), 10000);
     }
 
     private static void straightCorners() {
@@ -91,6 +115,9 @@ public final class FieldTest {
         Check.number("P28 east of 1.5", x.sidesEastOf(0, 2, 5), 1);
         Check.number("P28 west of 18.5", x.sidesEastOf(0, 18, 5), 1);
         Check.number("P28 east of 18.5", x.sidesEastOf(0, 19, 5), 0);
+        AcreOffice half = with(0, 0, 9, 0, 1, 2);
+        Check.number("P28 half a link to the west", half.sidesEastOf(0, 0, 1), 2);
+        Check.number("P28 half a link to the east", half.sidesEastOf(0, 1, 1), 1);
         AcreOffice y = with(0, 0, -3, 10, -17, 10, -20, 0);
         Check.number("P28 west of -1.5", y.sidesEastOf(0, -2, 5), 1);
         Check.number("P28 east of -1.5", y.sidesEastOf(0, -1, 5), 0);

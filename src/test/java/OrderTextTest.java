@@ -67,8 +67,17 @@ public final class OrderTextTest {
             Check.retype(x, "e5n5l5" + c);
             Check.number("P9 character " + (int) c + " in a length", x.textError(), 6);
         }
+        nextToTheDigits();
         Check.retype(x, "e" + (char) ('5' + 256));
         Check.number("P9 no digit", x.textError(), 1);
+    }
+
+    private static void nextToTheDigits() {
+        String[] starts = {"", "e", "e5", "e5n", "e5n5", "e5n5l", "e5n5l5", "g", "g5", "b"};
+        for (String start : starts) {
+            error(start + "/", start.length());
+            error(start + ":", start.length());
+        }
     }
 
     private static void validTexts() {
@@ -212,6 +221,14 @@ public final class OrderTextTest {
         Check.number("P11 to the west", x.errorEast(), 293);
         Check.number("P11 to the south", x.errorNorth(), 12);
         Check.number("P11 length", x.traverseLength(), 20400);
+        Check.retype(x, "b;e7s9l30");
+        x.carryOut();
+        Check.number("P11 to the east", x.errorEast(), 307);
+        Check.number("P11 and to the south", x.errorNorth(), 11);
+        Check.retype(x, "b;w8n10l30");
+        x.carryOut();
+        Check.number("P11 to the west", x.errorEast(), 292);
+        Check.number("P11 and to the north", x.errorNorth(), 30);
         Check.retype(x, "b;b;e9999n9999l1");
         Check.number("P11 three orders", x.carryOut(), 3);
         Check.number("P11 greatest part", x.errorEast(), 9999);

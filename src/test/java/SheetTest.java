@@ -38,6 +38,9 @@ public final class SheetTest {
         Check.number("P37 from -150 to 51 and 250 to 449", x.sheetsFor(0, 10), 2);
         AcreOffice last = with(0, 0, 0, 100, -201, 50);
         Check.number("P37 the last corner is farthest", last.sheetsFor(0, 10), 2);
+        AcreOffice second = with(0, 0, 0, -201, 100, -50);
+        Check.number("P37 corner 1 is farthest", second.sheetsFor(0, 10), 2);
+        Check.number("P38 corner 1 is farthest", second.scaleFor(0), 11);
         AcreOffice after = new AcreOffice();
         Check.keepCorners(after, 0, 0, 500, 0, 500, 500, 0, 500);
         after.giveUp(0);

@@ -10,6 +10,7 @@ public final class TraverseTest {
         lengthAndErrors();
         closeness();
         adjustedCorners();
+        adjustedCornersOfOneLeg();
         adjustedCornersFarFromClose();
         adjustedCornersThatAreNot();
         Check.finish("TraverseTest");
@@ -155,6 +156,15 @@ public final class TraverseTest {
         Check.number("P20 corner 2 of 3", x.adjustedEast(2), 10 - 1 - 3);
         Check.number("P21 corner 1 of 3", x.adjustedNorth(1), 20 + 60 + 2);
         Check.number("P21 corner 2 of 3", x.adjustedNorth(2), 20 + 1 + 4);
+    }
+
+    private static void adjustedCornersOfOneLeg() {
+        AcreOffice x = new AcreOffice();
+        x.setOrigin(3, -4);
+        x.addLeg(50, -60, 1);
+        Check.number("P20 the least length, corner 0", x.adjustedEast(0), 3);
+        Check.number("P20 the least length, corner 1", x.adjustedEast(1), 3);
+        Check.number("P21 the least length, corner 1", x.adjustedNorth(1), -4);
     }
 
     private static void adjustedCornersFarFromClose() {

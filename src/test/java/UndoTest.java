@@ -4,6 +4,7 @@ public final class UndoTest {
         undoEachAction();
         latestFour();
         undoAndGoOn();
+        eachActionGoesOnFromHere();
         refusedCallsRecordNothing();
         askingRecordsNothing();
         snapshot();
@@ -85,6 +86,51 @@ public final class UndoTest {
         Check.number("P12 before the leg", x.errorEast(), 10);
         Check.number("P12 the oldest", x.undo(), 0);
         Check.number("P12 three legs", x.errorEast(), 6);
+    }
+
+    /** Ways to have been elsewhere: by an undone action, and by orders that are not carried out. */
+    private static void beElsewhere(AcreOffice x, int way) {
+        if (way == 0) {
+            Check.retype(x, "b;b;b;g0;e77n77l77;e78n78l78");
+            x.carryOut();
+            x.undo();
+        } else if (way == 1) {
+            Check.retype(x, "b;b;b;g0;e77n77l77;e78n78l78;g5");
+            Check.badState("P11", x, x::carryOut);
+        } else {
+            Check.retype(x, "b;b;b;g0;e77n77l77;e78n78l78");
+            x.impossibleOrder();
+        }
+    }
+
+    private static void eachActionGoesOnFromHere() {
+        for (int way = 0; way < 3; way++) {
+            AcreOffice x = withField();
+            x.addLeg(0, 40, 50);
+            x.addLeg(-50, -40, 50);
+            beElsewhere(x, way);
+            Check.number("P2 from here", x.addLeg(1, 2, 50), 4);
+            Check.number("P17 from here", x.errorEast(), 1);
+            beElsewhere(x, way);
+            Check.number("P3 from here", x.takeBack(), 3);
+            Check.number("P16 from here", x.traverseLength(), 150);
+            beElsewhere(x, way);
+            Check.number("P4 from here", x.setOrigin(5, 6), 3);
+            beElsewhere(x, way);
+            Check.number("P5 from here", x.keep(), 1);
+            Check.number("P25 from here", x.cornerNorth(1, 2), 46);
+            x.addLeg(1, 1, 1);
+            x.addLeg(2, 2, 2);
+            x.addLeg(3, 3, 3);
+            beElsewhere(x, way);
+            Check.number("P6 from here", x.giveUp(0), 1);
+            Check.number("P15 from here", x.legs(), 3);
+            Check.number("P24 from here", x.cornerEast(0, 0), 5);
+            beElsewhere(x, way);
+            Check.number("P13 from here", x.takeSnapshot(), 1);
+            Check.number("P14 from here", x.restoreSnapshot(), 1);
+            Check.number("P15 from the snapshot", x.legs(), 3);
+        }
     }
 
     private static void refusedCallsRecordNothing() {
