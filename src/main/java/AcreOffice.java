@@ -297,7 +297,7 @@ public final class AcreOffice {
     }
 
     private void settleTrial() {
-        history.record(now);
+        history.remember(now);
         now.copyFrom(trial);
     }
 
@@ -689,7 +689,7 @@ public final class AcreOffice {
             count = 0;
         }
 
-        void record(State state) {
+        void remember(State state) {
             if (next < 0 || next >= MOST_RECORDED) {
                 return;
             }
