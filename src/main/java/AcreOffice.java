@@ -411,7 +411,7 @@ public final class AcreOffice {
         }
 
         private int shareOf(int error, int corner) {
-            long all = measuredLength();
+            long all = cellOf(lengthBefore, legCount);
             if (all <= 0L) {
                 return 0;
             }

@@ -116,9 +116,9 @@ public final class AreaTest {
     }
 
     private static void fieldsThatAreNot() {
-        AcreOffice x = with(0, 0, 100, 0, 100, 100);
         int[] wrong = {-1, 1, 6, Integer.MIN_VALUE, Integer.MAX_VALUE};
         for (int f : wrong) {
+            AcreOffice x = with(0, 0, 100, 0, 100, 100);
             Check.noField("P30 field " + f, x, () -> x.twiceAreaByCorners(f));
             Check.noField("P31 field " + f, x, () -> x.twiceAreaByStrips(f));
             Check.noField("P32 field " + f, x, () -> x.acresOf(f));

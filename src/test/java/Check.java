@@ -54,7 +54,7 @@ final class Check {
         refuses(what, office, IllegalStateException.class, call);
     }
 
-    private static String thrownBy(Call call) {
+    static String thrownBy(Call call) {
         try {
             call.run();
             return "nothing";
@@ -71,18 +71,21 @@ final class Check {
     /** The state alone: without text, recorded states and snapshot. */
     static String stateOf(AcreOffice office) {
         List<Object> seen = new ArrayList<>();
-        seen.add(office.legs());
+        int legs = office.legs();
+        seen.add(legs);
         seen.add(office.traverseLength());
         seen.add(office.errorEast());
         seen.add(office.errorNorth());
-        for (int k = 0; k <= office.legs(); k++) {
+        for (int k = 0; k <= legs; k++) {
             seen.add(office.adjustedEast(k));
             seen.add(office.adjustedNorth(k));
         }
-        seen.add("fields " + office.fields());
-        for (int f = 0; f < office.fields(); f++) {
-            seen.add("field");
-            for (int c = 0; c < office.cornersOf(f); c++) {
+        int fields = office.fields();
+        seen.add("fields " + fields);
+        for (int f = 0; f < fields; f++) {
+            int corners = office.cornersOf(f);
+            seen.add("corners " + corners);
+            for (int c = 0; c < corners; c++) {
                 seen.add(office.cornerEast(f, c));
                 seen.add(office.cornerNorth(f, c));
             }

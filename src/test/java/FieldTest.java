@@ -188,9 +188,9 @@ public final class FieldTest {
     }
 
     private static void fieldsThatAreNot() {
-        AcreOffice x = with(0, 0, 100, 0, 100, 100);
         int[] wrong = {-1, 1, 6, Integer.MIN_VALUE, Integer.MAX_VALUE};
         for (int f : wrong) {
+            AcreOffice x = with(0, 0, 100, 0, 100, 100);
             Check.noField("P26 field " + f, x, () -> x.leftTurns(f));
             Check.noField("P27 field " + f, x, () -> x.turnsOneWay(f));
             Check.noField("P28 field " + f, x, () -> x.sidesEastOf(f, 0, 0));

@@ -166,9 +166,9 @@ public final class KeepTest {
     private static void fieldsThatAreNot() {
         AcreOffice none = new AcreOffice();
         Check.noField("P23 no field at all", none, () -> none.cornersOf(0));
-        AcreOffice x = withTwoFields();
         int[] wrong = {-1, 2, 6, Integer.MIN_VALUE, Integer.MAX_VALUE};
         for (int f : wrong) {
+            AcreOffice x = withTwoFields();
             Check.noField("P23 field " + f, x, () -> x.cornersOf(f));
             Check.noField("P24 field " + f, x, () -> x.cornerEast(f, 0));
             Check.noField("P25 field " + f, x, () -> x.cornerNorth(f, 0));

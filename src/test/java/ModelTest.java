@@ -8,7 +8,8 @@ import java.util.TreeMap;
 /** Long runs of calls, the same ones each time, answered by AcreOffice and by PlainOffice. */
 public final class ModelTest {
     private static final int RUNS = 1500;
-    private static final int CALLS = 500;
+    /** Nothing is promised of what an office answers to later calls. */
+    private static final int CALLS = 512;
 
     private static final Map<String, Method> REAL = methodsOf(AcreOffice.class);
     private static final Map<String, Method> PLAIN = methodsOf(PlainOffice.class);
@@ -85,13 +86,13 @@ public final class ModelTest {
         }
     }
 
-    private String call(String name, Object... args) {
+    private void call(String name, Object... args) {
+        if (calls >= CALLS) {
+            return;
+        }
         calls++;
         String got = answer(REAL, real, name, args);
         String due = answer(PLAIN, plain, name, args);
-        if (name.equals("twiceAreaByStrips") && !got.equals(answer(REAL, real, "twiceAreaByCorners", args))) {
-            got = got + ", another than by corners";
-        }
         story.append(name).append(Arrays.toString(args)).append(" = ").append(due).append('\n');
         int[] counts = SEEN.computeIfAbsent(name, k -> new int[2]);
         counts[got.startsWith("throws") ? 1 : 0]++;
@@ -99,7 +100,6 @@ public final class ModelTest {
             differed = true;
             System.out.println("run " + run + ":\n" + story + "but answered " + got);
         }
-        return got;
     }
 
     private void step() {
@@ -140,12 +140,12 @@ public final class ModelTest {
     }
 
     private int field() {
-        return oneIn(12) ? between(-2, 7) : next(Math.max(1, real.fields()));
+        return oneIn(12) ? between(-2, 7) : next(Math.max(1, plain.fields()));
     }
 
     private int corner(int field) {
-        boolean known = field >= 0 && field < real.fields();
-        return oneIn(10) || !known ? between(-1, 13) : next(real.cornersOf(field));
+        boolean known = field >= 0 && field < plain.fields();
+        return oneIn(10) || !known ? between(-1, 13) : next(plain.cornersOf(field));
     }
 
     /** Legs that nearly come back to where they began. */
@@ -189,7 +189,7 @@ public final class ModelTest {
     }
 
     private void takeAllBack() {
-        while (real.legs() > 0) {
+        while (plain.legs() > 0 && calls < CALLS) {
             call("takeBack");
         }
     }
@@ -206,7 +206,7 @@ public final class ModelTest {
         if (oneIn(3) && text.length() > 0) {
             spoil(text);
         }
-        for (int i = 0; i < text.length() && calls < CALLS; i++) {
+        for (int i = 0; i < text.length(); i++) {
             call("type", text.charAt(i));
         }
         call("textError");
@@ -253,7 +253,7 @@ public final class ModelTest {
         call("errorEast");
         call("errorNorth");
         call("isClose");
-        int corner = oneIn(8) ? between(-1, 13) : next(real.legs() + 1);
+        int corner = oneIn(8) ? between(-1, 13) : next(plain.legs() + 1);
         call("adjustedEast", corner);
         call("adjustedNorth", corner);
     }
@@ -295,17 +295,17 @@ public final class ModelTest {
     }
 
     private void sidesEastOf(int field) {
-        boolean known = field >= 0 && field < real.fields();
+        boolean known = field >= 0 && field < plain.fields();
         if (!known || oneIn(8)) {
             call("sidesEastOf", field, part(200000), part(200000));
             return;
         }
-        int corners = real.cornersOf(field);
+        int corners = plain.cornersOf(field);
         int a = next(corners);
         int b = next(corners);
-        int east = (real.cornerEast(field, a) + real.cornerEast(field, b)) / 2 + between(-1, 1);
-        int north = oneIn(2) ? real.cornerNorth(field, a)
-            : (real.cornerNorth(field, a) + real.cornerNorth(field, b)) / 2 + between(-1, 1);
+        int east = (plain.cornerEast(field, a) + plain.cornerEast(field, b)) / 2 + between(-1, 1);
+        int north = oneIn(2) ? plain.cornerNorth(field, a)
+            : (plain.cornerNorth(field, a) + plain.cornerNorth(field, b)) / 2 + between(-1, 1);
         call("sidesEastOf", field, east, north);
     }
 }

@@ -8,6 +8,8 @@ public final class OrderTextTest {
         errorsOfTexts();
         textsThatEndTooEarly();
         impossibleOrders();
+        impossibleOrdersBehindLegs();
+        impossibleOrdersWhenFull();
         carryOut();
         carryOutAsOneAction();
         carryOutThatFails();
@@ -183,6 +185,10 @@ public final class OrderTextTest {
         impossible(x, "g0", 0);
         impossible(x, "e5n5l5;b;b", 2);
         impossible(x, "e5n5l5;b", AcreOffice.NONE);
+    }
+
+    private static void impossibleOrdersBehindLegs() {
+        AcreOffice x = new AcreOffice();
         impossible(x, "e9n0l9;e0n9l9;k", 2);
         impossible(x, "e9n0l9;e0n9l9;w9s8l9;k", 3);
         impossible(x, "e9n0l9;e0n9l9;w9s9l9;k", AcreOffice.NONE);
@@ -191,12 +197,18 @@ public final class OrderTextTest {
         impossible(x, "e9n0l9;e0n9l9;w9s9l9;k;k", 4);
         impossible(x, "e9n0l9;w8s0l9;w1n0l9;k", 3);
         impossible(x, "e9n0l9;e0n9l9;w9s9l9;k;e1n1l1;g0;b;b", 7);
-        for (int k = 0; k < 6; k++) {
-            Check.keepCorners(x, k, 0, k + 9, 0, k, 9);
-        }
-        impossible(x, "e9n0l9;e0n9l9;w9s9l9;k", 3);
-        impossible(x, "g5;e9n0l9;e0n9l9;w9s9l9;k;g5", AcreOffice.NONE);
-        impossible(x, "g5;g5", 1);
+    }
+
+    private static AcreOffice withSixFields() {
+        AcreOffice x = new AcreOffice();
+        Offices.sixFields(x);
+        return x;
+    }
+
+    private static void impossibleOrdersWhenFull() {
+        impossible(withSixFields(), "e9n0l9;e0n9l9;w9s9l9;k", 3);
+        impossible(withSixFields(), "g5;e9n0l9;e0n9l9;w9s9l9;k;g5", AcreOffice.NONE);
+        impossible(withSixFields(), "g5;g5", 1);
         AcreOffice full = new AcreOffice();
         for (int k = 0; k < 11; k++) {
             full.addLeg(1, 1, 1);
