@@ -436,10 +436,6 @@ public final class EdgesOfFieldsTest {
             Check.keepCorners(x, 50, 0, 100, 0, 0, 100, 0, 0);
             Edge.is(x.leftTurns(0), 3);
         });
-        Edge.at("P26 straight back is no turn", x -> {
-            Check.keepCorners(x, 0, 0, 100, 0, 50, 0, 0, 50);
-            Edge.is(x.leftTurns(0), 2);
-        });
         Edge.at("P26 the diamond of twelve corners turns at four", x -> {
             Offices.diamond(x);
             Edge.is(x.leftTurns(0), 4);

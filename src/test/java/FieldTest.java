@@ -5,7 +5,6 @@ public final class FieldTest {
         squareTheOtherWay();
         corneredField();
         straightCorners();
-        cornersInOnePlace();
         wideTurn();
         nothingIsLeftOfAnOlderField();
         sidesEastOfASquare();
@@ -70,13 +69,7 @@ public final class FieldTest {
     private static void straightCorners() {
         turns("straight on", with(0, 0, 50, 0, 100, 0, 100, 100, 0, 100), 4, true);
         turns("straight on, right", with(0, 0, 0, 100, 100, 100, 100, 0, 50, 0), 0, true);
-        // at the spike's end there is no turn, and behind it one to the right
-        turns("straight back", with(0, 0, 100, 0, 100, 100, 100, 150, 100, 100, 0, 100), 3, false);
         turns("straight corner 0", with(50, 0, 100, 0, 100, 100, 0, 100, 0, 0), 4, true);
-    }
-
-    private static void cornersInOnePlace() {
-        turns("a side of no length", with(0, 0, 100, 0, 100, 0, 100, 100, 0, 100), 3, true);
     }
 
     private static void wideTurn() {

@@ -276,8 +276,8 @@ public final class ModelTest {
                 call("cornerEast", field, corner);
                 call("cornerNorth", field, corner);
             }
-            case 1 -> call("leftTurns", field);
-            case 2 -> call("turnsOneWay", field);
+            case 1 -> turns("leftTurns", field);
+            case 2 -> turns("turnsOneWay", field);
             case 3 -> sidesEastOf(field);
             case 4 -> call("sharedSides", field, field());
             case 5 -> {
@@ -291,6 +291,12 @@ public final class ModelTest {
             }
             case 7 -> call("sheetsFor", field, oneIn(10) ? between(-1, 9) : oneIn(10) ? 1001 : between(10, 1000));
             default -> call("scaleFor", field);
+        }
+    }
+
+    private void turns(String name, int field) {
+        if (plain.saysTurnsOf(field)) {
+            call(name, field);
         }
     }
 

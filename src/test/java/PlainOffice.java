@@ -29,6 +29,10 @@ public final class PlainOffice {
             return new Point(east.subtract(p.east), north.subtract(p.north));
         }
 
+        BigInteger dot(Point p) {
+            return east.multiply(p.east).add(north.multiply(p.north));
+        }
+
         BigInteger cross(Point p) {
             return east.multiply(p.north).subtract(north.multiply(p.east));
         }
@@ -349,6 +353,23 @@ public final class PlainOffice {
             }
         }
         return turns;
+    }
+
+    /** The document says nothing of turns next to a side of no length, or straight back. */
+    boolean saysTurnsOf(int field) {
+        if (field < 0 || field >= state.fields.size()) {
+            return true;
+        }
+        List<Point> corners = state.fields.get(field);
+        int n = corners.size();
+        for (int i = 0; i < n; i++) {
+            Point side = corners.get((i + 1) % n).minus(corners.get(i));
+            Point next = corners.get((i + 2) % n).minus(corners.get((i + 1) % n));
+            if (side.cross(next).signum() == 0 && side.dot(next).signum() <= 0) {
+                return false;
+            }
+        }
+        return true;
     }
 
     public int leftTurns(int field) {

@@ -3,8 +3,9 @@ import java.nio.file.Files;
 import java.nio.file.Path;
 import java.util.regex.Matcher;
 import java.util.regex.Pattern;
+import java.util.stream.Stream;
 
-/** Each promise of the document has tests of its edges, and no test names a promise that is not. */
+/** Each promise of the document has tests of its edges, no test names a promise that is not, and each is run. */
 public final class PromisesTest {
     private static final int PROMISES = 39;
 
@@ -26,7 +27,19 @@ public final class PromisesTest {
             int promise = Integer.parseInt(named.group(1));
             Check.holds("P" + promise + " is a promise", promise >= 1 && promise <= PROMISES);
         }
+        eachTestIsRun();
         Check.finish("PromisesTest");
+    }
+
+    /** .ci/run takes a file for a test by its name. */
+    private static void eachTestIsRun() throws IOException {
+        try (Stream<Path> files = Files.walk(Path.of("src/test"))) {
+            for (Path file : files.filter(Files::isRegularFile).toList()) {
+                boolean isTest = count("public static void main\\(", Files.readString(file)) > 0;
+                boolean isRun = file.toString().matches("src/test/java/\\w+Test\\.java");
+                Check.same(file + " is run just if it is a test", isRun, isTest);
+            }
+        }
     }
 
     private static long count(String pattern, CharSequence text) {
